@@ -529,6 +529,12 @@ public final class OrangeHeaps {
             size = top;
         }
 
+        /** One more limb of nought ahead, until the next trim. */
+        void widen() {
+            write(size, 0);
+            size = size < ROOM ? size + 1 : ROOM;
+        }
+
         void setLong(long v) {
             write(0, v % BASE);
             write(1, v / BASE % BASE);
@@ -683,6 +689,7 @@ public final class OrangeHeaps {
             rest.scale(lift, 0);
             int n = divisor.size;
             int top = rest.size - n;
+            rest.widen();
             for (int j = top; j >= 0; j--) {
                 long guess = guessAt(j, n);
                 takeAway(guess, j, n);
