@@ -472,7 +472,7 @@ public class ModelTest {
             if (two(n, -1) > 0) {
                 return 2;
             }
-            for (long a = 1; 3 * a * a <= n && a < 60; a++) {
+            for (long a = 1; 3 * a * a <= n; a++) {
                 if (two((int) (n - a * a), -1) > 0) {
                     return 3;
                 }
