@@ -1,4 +1,5 @@
 import java.math.BigInteger;
+import java.util.Random;
 
 /** For each promise of the document: ordinary calls, the edges it names, and one call for each refusal. */
 public class PromiseTest {
@@ -346,6 +347,35 @@ public class PromiseTest {
         holds("10 long /", 2, new BigInteger(a).divide(new BigInteger(b)).toString());
         h.reckon(4, 0, 1, 2);
         holds("10 long %", 2, new BigInteger(a).mod(new BigInteger(b)).toString());
+        quotients();
+    }
+
+    /** Numbers whose limbs are noughts, nines and such: there the guesses at a quotient go wrong. */
+    static void quotients() {
+        Random random = new Random(10);
+        for (int i = 0; i < 300; i++) {
+            String a = limbs(random, 1 + random.nextInt(8));
+            String b = limbs(random, 1 + random.nextInt(5));
+            if (new BigInteger(b).signum() == 0) {
+                continue;
+            }
+            read(a, 0);
+            read(b, 1);
+            BigInteger[] due = new BigInteger(a).divideAndRemainder(new BigInteger(b));
+            is("10 / " + a + " " + b, h.reckon(3, 0, 1, 2), due[0].toString().length());
+            holds("10 / " + a + " " + b, 2, due[0].toString());
+            is("10 % " + a + " " + b, h.reckon(4, 0, 1, 2), due[1].toString().length());
+            holds("10 % " + a + " " + b, 2, due[1].toString());
+        }
+    }
+
+    static String limbs(Random random, int n) {
+        String[] some = {"000000000", "999999999", "000000001", "500000000", "499999999", "999999998", "500000001"};
+        StringBuilder all = new StringBuilder();
+        for (int i = 0; i < n; i++) {
+            all.append(random.nextInt(5) == 0 ? "" + (100000000 + random.nextInt(900000000)) : some[random.nextInt(some.length)]);
+        }
+        return all.toString();
     }
 
     static void promise11() {
@@ -468,6 +498,16 @@ public class PromiseTest {
             h.shape(0, kind, kind < 3 ? 0 : 50);
             is("13 FULL", h.nth(0, 1, 2), FULL);
         }
+        big(1, "1" + "0".repeat(108), 7);
+        h.shape(0, 1, 0);
+        is("13 longest triangle", h.nth(0, 1, 2), 216);
+        holds("13 longest triangle", 2, "5" + "0".repeat(107) + "5" + "0".repeat(107));
+        is("14 longest triangle", h.which(0, 2, 3), 1);
+        is("14 longest triangle", h.order(1, 3), 0);
+        big(1, "14" + "0".repeat(107), 7);
+        is("13 longest triangle", h.nth(0, 1, 2), 216);
+        big(1, "15" + "0".repeat(107), 7);
+        is("13 FULL triangle", h.nth(0, 1, 2), FULL);
         big(1, "1" + "0".repeat(72), 7);
         h.shape(0, 4, 8);
         is("13 heap of 217", h.nth(0, 1, 2), FULL);
@@ -587,6 +627,19 @@ public class PromiseTest {
         BigInteger x = new BigInteger(text(1));
         BigInteger y = new BigInteger(text(0));
         is("17 is one more", x.multiply(x).subtract(y.multiply(y).multiply(BigInteger.valueOf(4729))).intValueExact(), 1);
+        BigInteger first = new BigInteger(leastOne(61));
+        BigInteger older = BigInteger.ONE;
+        BigInteger now = first;
+        for (int n = 1; n <= 24; n++) {
+            int due = now.toString().length();
+            is("17 d 61, " + n, h.one(61, n, 0, 1), due > 216 ? FULL : due);
+            if (due <= 216) {
+                holds("17 d 61, " + n, 0, now.toString());
+            }
+            BigInteger next = first.add(first).multiply(now).subtract(older);
+            older = now;
+            now = next;
+        }
         is("17 99th", h.one(2, 99, 0, 1), 76);
         is("17 FULL", h.one(61, 99, 0, 1), FULL);
         is("17 FULL changes nothing", h.figures(0), 76);
@@ -713,7 +766,9 @@ public class PromiseTest {
         is("21 0 is a square", h.off(2, -98, 0), 7);
         is("21 0 is a square", h.off(11, -99, 0), 3);
         is("21 99", h.off(2, 99, -1) >= 0 ? 1 : 0, 1);
-        is("21 last y", h.off(9998, 99, 9999), NONE);
+        is("21 no 9999th", h.off(9998, 99, 9999), NONE);
+        is("21 last y", h.off(2499, 1, -1), 4);
+        is("21 last y", h.off(2499, 1, 3), 9999);
         each("21 BAD", BAD, h.off(1, 1, 0), h.off(4, 1, 0), h.off(10000, 1, 0), h.off(2, 100, 0), h.off(2, -100, 0), h.off(2, 1, -2),
                 h.off(2, 1, 10000), h.off(-2, 1, 0), h.off(2, LEAST, 0), h.off(2, MOST, 0), h.off(2, 1, MOST));
     }
@@ -795,7 +850,7 @@ public class PromiseTest {
 
     static void promise25() {
         fresh();
-        int[][] rows = {{0, 0, 0, 0, 0}, {1, 0, 0, 0, 1}, {7, 1, 1, 1, 2}, {23, 1, 2, 3, 3}, {28, 1, 1, 1, 5}, {30, 0, 1, 2, 5},
+        int[][] rows = {{0, 0, 0, 0, 0}, {1, 0, 0, 0, 1}, {2, 0, 0, 1, 1}, {3, 0, 1, 1, 1}, {4, 0, 0, 0, 2}, {48, 0, 4, 4, 4}, {7, 1, 1, 1, 2}, {23, 1, 2, 3, 3}, {28, 1, 1, 1, 5}, {30, 0, 1, 2, 5},
             {96, 0, 4, 4, 8}, {25, 0, 0, 0, 5}, {50, 0, 0, 1, 7}, {112, 2, 2, 2, 10}};
         for (int[] row : rows) {
             for (int i = 0; i < 4; i++) {
