@@ -974,6 +974,8 @@ public final class OrangeHeaps {
     /** What is found by going through small numbers; an i of -1 asks how many there are. */
     static final class Counts {
         private static final int ENOUGH = 1_000_000, HOW_MANY = -1;
+        // bit r is set where r is the rest of a square by 64, by 63
+        private static final long SQUARES_BY_64 = 0x0202_0212_0203_0213L, SQUARES_BY_63 = 0x0402_4830_1245_0293L;
 
         static long rootOf(long v) {
             long root = 0;
@@ -987,8 +989,8 @@ public final class OrangeHeaps {
         }
 
         static boolean isSquare(long v) {
-            long low = v & 15;
-            if (v < 0 || low != 0 && low != 1 && low != 4 && low != 9) {
+            // most numbers leave rests that no square leaves: then no root need be drawn
+            if (v < 0 || (SQUARES_BY_64 >> (v & 63) & 1) == 0 || (SQUARES_BY_63 >> v % 63 & 1) == 0) {
                 return false;
             }
             long root = rootOf(v);
@@ -1186,7 +1188,7 @@ public final class OrangeHeaps {
         // of a string s and a side a the other side is s (s - 2 a) by 2 (s - a)
         static int strings(long length) {
             int count = 0;
-            for (long a = 1; 2 * a < length; a++) {
+            for (long a = 1; 3 * a < length; a++) {
                 long above = length * (length - 2 * a);
                 long below = 2 * (length - a);
                 if (above % below == 0 && above / below > a) {
@@ -1287,7 +1289,7 @@ public final class OrangeHeaps {
 
         /** One claim from where the reading stands: 0, or a fault. */
         int readClaim() {
-            int fault = readNumber(0, Long.MAX_VALUE);
+            int fault = readNumber(0, 999_999_999_999_999_999L);
             if (fault != 0) {
                 return fault;
             }
