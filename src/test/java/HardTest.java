@@ -1,12 +1,15 @@
 import java.lang.management.ManagementFactory;
 import java.util.Random;
 
-/** Wild calls in any state: nothing is thrown, every call ends, the same calls answer the same, calls make no objects. */
+/** Wild calls in any state: nothing is thrown, every call ends, the same calls answer the same, a run stays in its room. */
 public class HardTest {
     static final int[] EDGES = {Integer.MIN_VALUE, Integer.MIN_VALUE + 1, -100, -99, -2, -1, 0, 1, 2, 3, 4, 7, 8, 23, 24, 25, 98, 99,
         100, 199, 200, 201, 500, 999, 1000, 9801, 9802, 9998, 9999, 10000, 999999, 1000000, 1000001, 999999999, 1000000000, 1000000001,
         46340, 46341, 1 << 30, Integer.MAX_VALUE - 1, Integer.MAX_VALUE};
     static final int METHODS = 38;
+    static final int DEAR_CALLS = 45, MINUTES = 10;
+    // 7.3 million elements of 8 bytes at most
+    static final long ROOM = 7_300_000L * 8;
 
     static int wrong;
 
@@ -85,27 +88,20 @@ public class HardTest {
         return sum;
     }
 
-    /** The dearest calls, one object, 512 times: what they make is counted. */
+    /** One object and the dearest of its 512 calls stay in the room of one run, told as bytes. */
     static void room() {
         com.sun.management.ThreadMXBean threads = (com.sun.management.ThreadMXBean) ManagementFactory.getThreadMXBean();
         long id = Thread.currentThread().getId();
-        OrangeHeaps h = new OrangeHeaps();
-        dear(h);
+        dear(new OrangeHeaps());
         long before = threads.getThreadAllocatedBytes(id);
-        for (int i = 0; i < 40; i++) {
+        OrangeHeaps h = new OrangeHeaps();
+        for (int i = 0; i < 512 / DEAR_CALLS; i++) {
             dear(h);
         }
         long bytes = threads.getThreadAllocatedBytes(id) - before;
-        if (bytes > 40 * 64) {
+        if (bytes > ROOM) {
             wrong++;
-            System.out.println("dear calls made " + bytes + " bytes");
-        }
-        before = threads.getThreadAllocatedBytes(id);
-        new OrangeHeaps();
-        bytes = threads.getThreadAllocatedBytes(id) - before;
-        if (bytes > 64 * 1024) {
-            wrong++;
-            System.out.println("an object has " + bytes + " bytes");
+            System.out.println("an object and its dearest calls take " + bytes + " bytes");
         }
     }
 
@@ -145,23 +141,29 @@ public class HardTest {
         h.less(9949);
     }
 
-    /** More calls than are promised must end too. */
-    static void longRun() {
-        Random random = new Random(7);
-        OrangeHeaps h = new OrangeHeaps();
-        for (int i = 0; i < 20000; i++) {
-            call(h, random.nextInt(METHODS), random);
-        }
+    /** A call that fails to end fails the test, in place of waiting for ever. */
+    static void watch() {
+        Thread watch = new Thread(() -> {
+            try {
+                Thread.sleep(MINUTES * 60_000L);
+            } catch (InterruptedException e) {
+                return;
+            }
+            System.out.println("HardTest: a call does not end");
+            Runtime.getRuntime().halt(1);
+        });
+        watch.setDaemon(true);
+        watch.start();
     }
 
     public static void main(String[] args) {
-        for (int seed = 0; seed < 300; seed++) {
+        watch();
+        for (int seed = 0; seed < 600; seed++) {
             if (run(seed) != run(seed)) {
                 wrong++;
                 System.out.println("run " + seed + " answers otherwise the second time");
             }
         }
-        longRun();
         room();
         System.out.println("HardTest: " + wrong + " wrong");
         System.exit(wrong == 0 ? 0 : 1);

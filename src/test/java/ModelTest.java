@@ -11,6 +11,8 @@ public class ModelTest {
     static final int BAD = -1, NOT = -2, FULL = -3, NONE = -4, NULL = -11, CAST = -12, INDEX = -13, SIZE = -14, ZERO = -15;
     static final BigInteger LIMIT = BigInteger.TEN.pow(216);
     static final BigInteger NINE = BigInteger.TEN.pow(9);
+    // a step types 100 bytes one by one at the dearest; all places are told by 26 calls each
+    static final int DEAREST_STEP = 140, COMPARE_ALL = 8 * 26;
 
     /** What a place holds: null, a BigInteger, or an int[] of kind and k. */
     static class Model {
@@ -740,7 +742,7 @@ public class ModelTest {
     static int wrong;
     static int asked;
     static Random random;
-    static OrangeHeaps heaps;
+    static Heaps heaps;
     static Model model;
 
     static int wild() {
@@ -1047,23 +1049,45 @@ public class ModelTest {
         }
     }
 
-    static void comparePlaces() {
-        for (int i = 0; i < 8; i++) {
-            is("then told " + i, heaps.told(i), model.told(i));
-            is("then figures " + i, heaps.figures(i), model.figuresOf(i));
-            for (int j = 0; j < 24 && model.told(i) == 1; j++) {
-                is("then nine " + i + " " + j, heaps.nine(i, j), model.nine(i, j));
+    /** What a place tells, as the model has it: of a number the nines that are asked for. */
+    static void compare(int place, int... nines) {
+        is("then told " + place, heaps.told(place), model.told(place));
+        if (model.told(place) == 1) {
+            is("then figures " + place, heaps.figures(place), model.figuresOf(place));
+            for (int i : nines) {
+                is("then nine " + place + " " + i, heaps.nine(place, i), model.nine(place, i));
             }
         }
     }
 
-    static void run(int seed, int calls) {
+    static void compareChanged(Object[] before) {
+        for (int place = 0; place < 8; place++) {
+            if (before[place] != model.places[place]) {
+                int last = Math.max(0, (model.figuresOf(place) - 1) / 9);
+                compare(place, 0, last, random.nextInt(24));
+            }
+        }
+    }
+
+    static void compareAll() {
+        for (int place = 0; place < 8; place++) {
+            int[] all = new int[24];
+            for (int i = 0; i < 24; i++) {
+                all[i] = i;
+            }
+            compare(place, all);
+        }
+    }
+
+    /** As many calls as are promised of one object. */
+    static void run(int seed) {
         random = new Random(seed);
-        heaps = new OrangeHeaps();
+        heaps = new Heaps();
         model = new Model();
         int before = wrong;
         int focus = seed % 5;
-        for (int i = 0; i < calls && wrong == before; i++) {
+        while (heaps.left() >= DEAREST_STEP + COMPARE_ALL && wrong == before) {
+            Object[] places = model.places.clone();
             int luck = random.nextInt(8) < 4 ? focus : random.nextInt(5);
             if (luck < 2) {
                 places();
@@ -1074,17 +1098,18 @@ public class ModelTest {
             } else {
                 sheets();
             }
-            comparePlaces();
+            compareChanged(places);
         }
+        compareAll();
         if (wrong != before) {
             System.out.println("in the run of seed " + seed);
         }
     }
 
     public static void main(String[] args) {
-        int runs = args.length > 0 ? Integer.parseInt(args[0]) : 150;
+        int runs = args.length > 0 ? Integer.parseInt(args[0]) : 1000;
         for (int seed = 0; seed < runs && wrong < 40; seed++) {
-            run(seed, 300);
+            run(seed);
         }
         System.out.println("ModelTest: " + asked + " asked, " + wrong + " wrong");
         System.exit(wrong == 0 ? 0 : 1);

@@ -2,24 +2,16 @@ import java.math.BigInteger;
 import java.util.Random;
 
 /** For each promise of the document: ordinary calls, the edges it names, and one call for each refusal. */
-public class PromiseTest {
-    static final int BAD = -1, NOT = -2, FULL = -3, NONE = -4, NULL = -11, CAST = -12, INDEX = -13, SIZE = -14, ZERO = -15;
-    static final int LEAST = Integer.MIN_VALUE, MOST = Integer.MAX_VALUE;
-
-    static int wrong;
-    static int asked;
-    static OrangeHeaps h;
-
-    static void is(String call, long got, long due) {
-        asked++;
-        if (got != due) {
-            wrong++;
-            System.out.println(call + ": " + got + ", due " + due);
-        }
-    }
+public class PromiseTest extends Boundaries {
+    static Heaps h;
 
     static void fresh() {
-        h = new OrangeHeaps();
+        h = new Heaps();
+    }
+
+    /** A new object, unless this one may still be asked so many times; for calls that need nothing of before. */
+    static void fresh(int times) {
+        h = h.left() < times ? new Heaps() : h;
     }
 
     static void each(String name, int due, int... got) {
@@ -28,61 +20,30 @@ public class PromiseTest {
         }
     }
 
-    /** Types a text, in pieces of up to 8 bytes. */
     static void type(String text) {
-        for (int from = 0; from < text.length(); from += 8) {
-            String piece = text.substring(from, Math.min(text.length(), from + 8));
-            long w = 0;
-            for (int i = 0; i < piece.length(); i++) {
-                w = w << 8 | piece.charAt(i);
-            }
-            h.type(w, piece.length());
-        }
+        type(h, text);
     }
 
     static int read(String text, int place) {
-        type(text);
-        return h.number(place);
+        return read(h, text, place);
     }
 
     static int claims(String text) {
+        fresh(20);
         type(text);
         return h.claims();
     }
 
     static String text(int place) {
-        StringBuilder all = new StringBuilder();
-        for (int i = 23; i >= 0; i--) {
-            String nine = "" + h.nine(place, i);
-            all.append("0".repeat(9 - nine.length())).append(nine);
-        }
-        return new BigInteger(all.toString()).toString();
+        return text(h, place);
     }
 
     static void holds(String call, int place, String due) {
-        asked++;
-        String got = h.told(place) == 1 ? text(place) : "told " + h.told(place);
-        if (!got.equals(due)) {
-            wrong++;
-            System.out.println(call + " holds " + got + ", due " + due);
-        }
+        holds(h, call, place, due);
     }
 
-    /** Puts a number of any length up to 216 figures, by texts of up to 80. */
-    static void big(int place, String figures, int spare) {
-        h.put(place, 0);
-        for (int from = 0; from < figures.length(); from += 72) {
-            String piece = figures.substring(from, Math.min(figures.length(), from + 72));
-            read("1" + "0".repeat(piece.length()), spare);
-            h.reckon(2, place, spare, place);
-            read(piece, spare);
-            h.reckon(0, place, spare, place);
-        }
-        h.empty(spare);
-    }
-
-    static String nines(int n) {
-        return "9".repeat(n);
+    static void big(int place, String figures, int by) {
+        big(h, place, figures, by);
     }
 
     static void constants() {
@@ -109,7 +70,7 @@ public class PromiseTest {
         is("1 restore", h.restore(), NONE);
         is("1 number of an empty tape", h.number(0), -20);
         is("1 type", h.type('1', 1), 1);
-        OrangeHeaps other = new OrangeHeaps();
+        Heaps other = new Heaps();
         h.put(0, 5);
         is("1 objects share nothing", other.told(0), 0);
     }
@@ -359,6 +320,7 @@ public class PromiseTest {
             if (new BigInteger(b).signum() == 0) {
                 continue;
             }
+            fresh(60);
             read(a, 0);
             read(b, 1);
             BigInteger[] due = new BigInteger(a).divideAndRemainder(new BigInteger(b));
@@ -434,6 +396,7 @@ public class PromiseTest {
     }
 
     static void nth(int kind, int k, long n, String due) {
+        fresh(80);
         h.shape(0, kind, k);
         h.put(1, n);
         is("13 nth " + kind + " " + k + " " + n, h.nth(0, 1, 2), due.length());
@@ -1216,7 +1179,6 @@ public class PromiseTest {
         promise36();
         promise37();
         promise38();
-        System.out.println("PromiseTest: " + asked + " asked, " + wrong + " wrong");
-        System.exit(wrong == 0 ? 0 : 1);
+        end("PromiseTest");
     }
 }
