@@ -1,4 +1,6 @@
 import java.math.BigInteger;
+import java.util.HashMap;
+import java.util.Map;
 
 /** What the tests of the boundaries share: asking, a furnished object, and whether a refused call changed nothing. */
 class Boundaries {
@@ -9,12 +11,15 @@ class Boundaries {
     // the places of a furnished object
     static final int SOME = 0, NOUGHT = 1, LONGEST = 2, TRIANGLE = 3, HEAP = 4, NOTHING = 5, FREE = 6, SEVEN = 7;
 
+    // what a call may change beside the places, which are bits 0 .. 7; sheets are bits from SHEETS on
+    static final int TAPE = 1 << 8, IMAGE = 1 << 9, SHEETS = 1 << 10;
+
     private static final int[] FAR = {LEAST, MOST, 1 << 31 | 8, 1 << 16, 1 << 8};
 
     private static int wrong;
     private static int asked;
     private static String sentence = "";
-    private static String untouched;
+    private static final Map<Integer, String> UNTOUCHED = new HashMap<>();
 
     interface Call {
         int on(Heaps h);
@@ -56,35 +61,44 @@ class Boundaries {
 
     // ---- asking a furnished object
 
-    /** The call is answered with what is due. */
-    static Heaps gives(String call, int due, Call asking) {
+    /** The call is answered with what is due, and changes nothing but what it may. */
+    static Heaps gives(String call, int due, int but, Call asking) {
         Heaps h = furnished();
         is(call, asking.on(h), due);
+        unchanged(h, call, but);
+        h = furnished();
+        asking.on(h);
         return h;
     }
 
     /** The call is answered with how many figures a number has, which then is in a place. */
     static Heaps givesNumber(String call, String due, int place, Call asking) {
-        Heaps h = gives(call, due.length(), asking);
-        holds(h, call, place, due);
-        return h;
+        return givesNumber(call, due.length(), due, place, asking);
     }
 
     /** The call is answered as due, and a number is in a place then. */
     static Heaps givesNumber(String call, int answer, String due, int place, Call asking) {
-        Heaps h = gives(call, answer, asking);
+        Heaps h = gives(call, answer, 1 << place, asking);
         holds(h, call, place, due);
         return h;
     }
 
+    /** The call is answered with how many figures the first has of two numbers, which then are in two places. */
+    static void givesTwo(String call, String[] due, int first, int second, Call asking) {
+        Heaps h = gives(call, due[0].length(), 1 << first | 1 << second, asking);
+        holds(h, call, first, due[0]);
+        holds(h, call, second, due[1]);
+    }
+
     /** The call is refused as due, and the object answers all else as if it had not been called. */
     static void refused(String call, int due, Call asking) {
-        if (untouched == null) {
-            untouched = all(furnished());
-        }
         Heaps h = furnished();
         is(call, asking.on(h), due);
-        is(call + " changes nothing", all(h), untouched);
+        unchanged(h, call, 0);
+    }
+
+    private static void unchanged(Heaps h, String call, int but) {
+        is(call + " changes nothing else", all(h, but), UNTOUCHED.computeIfAbsent(but, key -> all(furnished(), key)));
     }
 
     /** As refused, behind calls that make another state. */
@@ -252,29 +266,41 @@ class Boundaries {
 
     /** All that an object tells, as a text; what is asked changes it. */
     static String all(Heaps h) {
+        return all(h, 0);
+    }
+
+    static String all(Heaps h, int but) {
         StringBuilder all = new StringBuilder();
-        tellPlaces(h, all);
-        tellShapes(h, all);
-        all.append(" tape ").append(h.number(FREE)).append(' ').append(text(h, FREE));
-        for (int sheet = 0; sheet < 4; sheet++) {
-            tellSheet(h, sheet, all);
+        tellPlaces(h, but, all);
+        tellShapes(h, but, all);
+        if ((but & TAPE) == 0) {
+            all.append(" tape ").append(h.number(FREE)).append(' ').append(text(h, FREE));
         }
-        all.append(" image ").append(h.restore());
-        tellPlaces(h, all);
-        tellShapes(h, all);
+        for (int sheet = 0; sheet < 4; sheet++) {
+            if ((but & SHEETS << sheet) == 0) {
+                tellSheet(h, sheet, all);
+            }
+        }
+        if ((but & IMAGE) == 0) {
+            all.append(" image ").append(h.restore());
+            tellPlaces(h, 0, all);
+            tellShapes(h, 0, all);
+        }
         return all.toString();
     }
 
-    private static void tellPlaces(Heaps h, StringBuilder all) {
+    private static void tellPlaces(Heaps h, int but, StringBuilder all) {
         for (int place = 0; place < 8; place++) {
-            all.append(' ').append(place).append(": ").append(text(h, place));
+            if ((but & 1 << place) == 0) {
+                all.append(' ').append(place).append(": ").append(text(h, place));
+            }
         }
     }
 
     // the third of a shape tells its kind and its k
-    private static void tellShapes(Heaps h, StringBuilder all) {
+    private static void tellShapes(Heaps h, int but, StringBuilder all) {
         for (int place = 0; place < 8; place++) {
-            if (h.told(place) > 1) {
+            if ((but & 1 << place) == 0 && h.told(place) > 1) {
                 int by = place == FREE ? NOTHING : FREE;
                 h.put(by, 3);
                 h.nth(place, by, by);

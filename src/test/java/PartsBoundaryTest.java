@@ -65,6 +65,10 @@ public class PartsBoundaryTest extends Boundaries {
         return all;
     }
 
+    static String[] texts(BigInteger[] two) {
+        return new String[] {two[0].toString(), two[1].toString()};
+    }
+
     static int figures(BigInteger v) {
         return v.toString().length();
     }
@@ -191,8 +195,7 @@ public class PartsBoundaryTest extends Boundaries {
         }
         for (int d : new int[] {FIRST_D, LAST_D, 9998, 9997, 9802, 9800, 9799, 9949, 61, 109, 421}) {
             BigInteger[] least = ones(d, 1).get(0);
-            Heaps h = givesNumber("least of " + d, least[0].toString(), FREE, g -> g.one(d, 1, FREE, HEAP));
-            holds(h, "least of " + d, HEAP, least[1].toString());
+            givesTwo("least of " + d, texts(least), FREE, HEAP, h -> h.one(d, 1, FREE, HEAP));
         }
     }
 
@@ -223,8 +226,7 @@ public class PartsBoundaryTest extends Boundaries {
                 fits++;
             }
             int last = fits;
-            Heaps h = givesNumber("one " + d + " " + last, ones.get(last - 1)[0].toString(), LONGEST, g -> g.one(d, last, LONGEST, TRIANGLE));
-            holds(h, "y " + d + " " + last, TRIANGLE, ones.get(last - 1)[1].toString());
+            givesTwo("one " + d + " " + last, texts(ones.get(last - 1)), LONGEST, TRIANGLE, h -> h.one(d, last, LONGEST, TRIANGLE));
             if (last < 99) {
                 refused("one " + d + " " + (last + 1), FULL, g -> g.one(d, last + 1, SOME, SEVEN));
                 refused("one " + d + " 99", FULL, g -> g.one(d, 99, NOTHING, HEAP));
@@ -280,8 +282,7 @@ public class PartsBoundaryTest extends Boundaries {
                 int toX = x;
                 int toY = y;
                 if (x != y) {
-                    Heaps h = givesNumber("one", "649", x, g -> g.one(13, 1, toX, toY));
-                    holds(h, "y", y, "180");
+                    givesTwo("one", new String[] {"649", "180"}, x, y, h -> h.one(13, 1, toX, toY));
                 }
             }
         }
@@ -392,8 +393,7 @@ public class PartsBoundaryTest extends Boundaries {
                 int toAbove = above;
                 int toBelow = below;
                 if (above != below) {
-                    Heaps h = givesNumber("near", "127", above, g -> g.near(7, 7, toAbove, toBelow));
-                    holds(h, "below", below, "48");
+                    givesTwo("near", new String[] {"127", "48"}, above, below, h -> h.near(7, 7, toAbove, toBelow));
                 }
             }
         }
@@ -452,9 +452,12 @@ public class PartsBoundaryTest extends Boundaries {
 
     static void bestBad() {
         sentence("22: above 0 .. 999999, below 1 .. 999999, MOST 1 .. 999; above (0), below (1). BAD");
-        outside("best of above", 0, 999_999, (h, x) -> h.best(x, 7, 9, 0));
-        outside("best of below", 1, 999_999, (h, x) -> h.best(7, x, 9, 1));
-        outside("best of most", 1, 999, (h, x) -> h.best(7, 3, x, 0));
+        for (int part = 0; part <= 1; part++) {
+            int asked = part;
+            outside("best of above", 0, 999_999, (h, x) -> h.best(x, 7, 9, asked));
+            outside("best of below", 1, 999_999, (h, x) -> h.best(7, x, 9, asked));
+            outside("best of most", 1, 999, (h, x) -> h.best(7, 3, x, asked));
+        }
         outside("best of part", 0, 1, (h, x) -> h.best(7, 3, 9, x));
         refused("best of 1000000", BAD, h -> h.best(1_000_000, 1_000_000, 9, 0));
         refused("best of all too great", BAD, h -> h.best(MOST, MOST, MOST, MOST));

@@ -89,8 +89,8 @@ public class PlacesBoundaryTest extends Boundaries {
         noPlace("shape with corners", (h, x) -> h.shape(x, 3, 3));
         for (int place = 0; place < 8; place++) {
             int to = place;
-            is("told", gives("shape", 1, h -> h.shape(to, 2, 0)).told(place), 4);
-            is("told", gives("shape", 1, h -> h.shape(to, 4, 6)).told(place), 6);
+            is("told", gives("shape", 1, 1 << to, h -> h.shape(to, 2, 0)).told(place), 4);
+            is("told", gives("shape", 1, 1 << to, h -> h.shape(to, 4, 6)).told(place), 6);
         }
     }
 
@@ -100,7 +100,7 @@ public class PlacesBoundaryTest extends Boundaries {
         outside("shape of kind, k 3,", 0, 4, (h, x) -> h.shape(SOME, x, 3));
         for (int kind = 0; kind < 5; kind++) {
             int asked = kind;
-            is("told", gives("shape", 1, h -> h.shape(SOME, asked, asked < 3 ? 0 : 3)).told(SOME), 2 + kind);
+            is("told", gives("shape", 1, 1 << SOME, h -> h.shape(SOME, asked, asked < 3 ? 0 : 3)).told(SOME), 2 + kind);
         }
     }
 
@@ -111,8 +111,8 @@ public class PlacesBoundaryTest extends Boundaries {
             outside("shape of k", 3, 99, (h, x) -> h.shape(SEVEN, asked, x));
             refused("shape of k 0", BAD, h -> h.shape(SEVEN, asked, 0));
             refused("shape of k 1", BAD, h -> h.shape(SEVEN, asked, 1));
-            is("told", gives("shape of k 3", 1, h -> h.shape(SEVEN, asked, 3)).told(SEVEN), 2 + kind);
-            is("told", gives("shape of k 99", 1, h -> h.shape(SEVEN, asked, 99)).told(SEVEN), 2 + kind);
+            is("told", gives("shape of k 3", 1, 1 << SEVEN, h -> h.shape(SEVEN, asked, 3)).told(SEVEN), 2 + kind);
+            is("told", gives("shape of k 99", 1, 1 << SEVEN, h -> h.shape(SEVEN, asked, 99)).told(SEVEN), 2 + kind);
         }
     }
 
@@ -124,13 +124,13 @@ public class PlacesBoundaryTest extends Boundaries {
             for (int k : new int[] {2, 3, 4, 99, 100}) {
                 refused("shape " + kind + " of k " + k, BAD, h -> h.shape(NOTHING, asked, k));
             }
-            gives("shape " + kind + " of k 0", 1, h -> h.shape(NOTHING, asked, 0));
+            gives("shape " + kind + " of k 0", 1, 1 << NOTHING, h -> h.shape(NOTHING, asked, 0));
         }
     }
 
     static void shapeReplaces() {
         sentence("3: whatever the PLACE holds");
-        Heaps h = gives("over a shape", 1, g -> g.shape(HEAP, 3, 8));
+        Heaps h = gives("over a shape", 1, 1 << HEAP, g -> g.shape(HEAP, 3, 8));
         is("told", h.told(HEAP), 5);
         h.put(FREE, 3);
         h.nth(HEAP, FREE, FREE);
@@ -151,7 +151,7 @@ public class PlacesBoundaryTest extends Boundaries {
         int[] held = {1, 1, 1, 3, 6, 0, 0, 1};
         for (int place = 0; place < 8; place++) {
             int asked = place;
-            Heaps h = gives("empty " + place, held[place], g -> g.empty(asked));
+            Heaps h = gives("empty " + place, held[place], 1 << place, g -> g.empty(asked));
             is("told", h.told(place), 0);
             is("figures", h.figures(place), NULL);
             is("empty again", h.empty(place), 0);
@@ -175,7 +175,7 @@ public class PlacesBoundaryTest extends Boundaries {
         }
         for (int kind = 0; kind < 5; kind++) {
             int asked = kind;
-            is("told", gives("shape", 1, h -> h.shape(FREE, asked, asked < 3 ? 0 : 99)).told(FREE), 2 + kind);
+            is("told", gives("shape", 1, 1 << FREE, h -> h.shape(FREE, asked, asked < 3 ? 0 : 99)).told(FREE), 2 + kind);
         }
     }
 
@@ -204,8 +204,8 @@ public class PlacesBoundaryTest extends Boundaries {
                     long w = with(b, at);
                     refused("type " + Long.toHexString(w) + " " + n, BAD, h -> h.type(w, asked));
                 }
-                gives("a blank", n + 2, h -> h.type(with(32, asked - 1), asked));
-                gives("126", n + 2, h -> h.type(with(126, asked - 1), asked));
+                gives("a blank", n + 2, TAPE, h -> h.type(with(32, asked - 1), asked));
+                gives("126", n + 2, TAPE, h -> h.type(with(126, asked - 1), asked));
             }
         }
     }
@@ -220,8 +220,8 @@ public class PlacesBoundaryTest extends Boundaries {
         for (int n = 1; n < 8; n++) {
             for (int b : new int[] {0, 31, 127, 255}) {
                 int asked = n;
-                gives("type " + n, n + 2, h -> h.type(with(b, asked), asked));
-                gives("type " + n, n + 2, h -> h.type(with(b, 7), asked));
+                gives("type " + n, n + 2, TAPE, h -> h.type(with(b, asked), asked));
+                gives("type " + n, n + 2, TAPE, h -> h.type(with(b, 7), asked));
             }
         }
     }
@@ -278,7 +278,8 @@ public class PlacesBoundaryTest extends Boundaries {
         sentence("7: THE TAPE, which is empty then, is a NUMBER, which comes to a PLACE");
         for (int place = 0; place < 8; place++) {
             int to = place;
-            Heaps h = givesNumber("number", "12", place, g -> g.number(to));
+            Heaps h = gives("number", 2, TAPE | 1 << place, g -> g.number(to));
+            holds(h, "number", place, "12");
             is("the tape is empty", h.type('3', 1), 1);
         }
     }
@@ -287,10 +288,11 @@ public class PlacesBoundaryTest extends Boundaries {
         sentence("7: THE TAPE is empty then, whatever is answered; a FAULT changes no PLACE");
         for (int place = 0; place < 8; place++) {
             int to = place;
-            Heaps h = furnished();
-            type(h, "x");
-            String held = text(h, place);
-            is("a fault", h.number(to), -22);
+            Heaps h = gives("a fault", -22, TAPE, g -> {
+                type(g, "x");
+                return g.number(to);
+            });
+            String held = text(furnished(), place);
             holds(h, "a fault", place, held);
             is("the tape is empty", h.number(to), -20);
             holds(h, "the end", place, held);
@@ -399,7 +401,7 @@ public class PlacesBoundaryTest extends Boundaries {
         refused("figures", NULL, g -> g.figures(NOTHING));
         refused("figures", CAST, g -> g.figures(TRIANGLE));
         refused("figures", CAST, g -> g.figures(HEAP));
-        is("of an emptied place", gives("empty", 1, g -> g.empty(SOME)).figures(SOME), NULL);
+        is("of an emptied place", gives("empty", 1, 1 << SOME, g -> g.empty(SOME)).figures(SOME), NULL);
     }
 
     static void nine() {
@@ -468,8 +470,8 @@ public class PlacesBoundaryTest extends Boundaries {
             twoPlaces("reckon " + what, NULL, CAST, (h, a, b) -> h.reckon(asked, a, b, SEVEN));
             for (int to = 0; to < 8; to++) {
                 int answer = to;
-                gives("what the answer's place holds does not count", what == 0 ? 2 : what == 1 || what == 2 ? 2 + what - 1 : 1,
-                        h -> h.reckon(asked, SOME, SEVEN, answer));
+                String due = new String[] {"43", "29", "252", "5", "1"}[what];
+                givesNumber("what the answer's place holds does not count", due, to, h -> h.reckon(asked, SOME, SEVEN, answer));
             }
         }
         sentence("10: NULL, CAST ahead of NOT, ZERO, FULL");
@@ -615,6 +617,28 @@ public class PlacesBoundaryTest extends Boundaries {
         refused("the longest times itself", FULL, h -> h.reckon(2, LONGEST, LONGEST, LONGEST));
         refused("0 by itself", ZERO, h -> h.reckon(3, NOUGHT, NOUGHT, NOUGHT));
         refused("7 less the longest", NOT, h -> h.reckon(1, SEVEN, LONGEST, SEVEN));
+    }
+
+    static void reckonLongInPlace() {
+        sentence("10, Terms: it may be one of those asked, of many figures");
+        BigInteger a = new BigInteger("9876543210".repeat(10));
+        BigInteger b = new BigInteger("12345678999999999".repeat(5));
+        BigInteger[] due = {a.add(b), a.subtract(b), a.multiply(b), a.divide(b), a.mod(b)};
+        BigInteger[] twice = {a.add(a), BigInteger.ZERO, a.multiply(a), BigInteger.ONE, BigInteger.ZERO};
+        for (int what = 0; what <= 4; what++) {
+            for (int to = 0; to < 3; to++) {
+                Heaps h = new Heaps();
+                big(h, 0, a, 7);
+                big(h, 1, b, 7);
+                is("reckon " + what + " to " + to, h.reckon(what, 0, 1, to), due[what].toString().length());
+                holds(h, "reckon " + what, to, due[what].toString());
+                holds(h, "asked", 0, to == 0 ? due[what].toString() : a.toString());
+                holds(h, "asked", 1, to == 1 ? due[what].toString() : b.toString());
+                big(h, 0, a, 7);
+                is("twice", h.reckon(what, 0, 0, to == 2 ? 2 : 0), twice[what].toString().length());
+                holds(h, "twice", to == 2 ? 2 : 0, twice[what].toString());
+            }
+        }
     }
 
     // ---- 11 root
@@ -877,6 +901,26 @@ public class PlacesBoundaryTest extends Boundaries {
         refused("which changes nothing", 0, h -> h.which(HEAP, SEVEN, HEAP));
     }
 
+    static void nthLongInPlace() {
+        sentence("13, 14, Terms: it may be one of those asked, of many figures");
+        for (int kind = 0; kind < 5; kind++) {
+            int k = kind < 3 ? 0 : 77;
+            BigInteger n = new BigInteger("9876543210".repeat(6));
+            BigInteger due = term(kind, k, n);
+            for (int to : new int[] {0, 7}) {
+                Heaps h = new Heaps();
+                h.shape(7, kind, k);
+                big(h, 0, n, 1);
+                is("nth " + kind, h.nth(7, 0, to), due.toString().length());
+                holds(h, "nth " + kind, to, due.toString());
+                h.shape(7, kind, k);
+                big(h, 0, due, 1);
+                is("which " + kind, h.which(7, 0, to), 1);
+                holds(h, "which " + kind, to, n.toString());
+            }
+        }
+    }
+
     static void nthInPlace() {
         sentence("13, 14, Terms: it may be one of those asked");
         givesNumber("nth into the shape's", "196", HEAP, h -> h.nth(HEAP, SEVEN, HEAP));
@@ -928,6 +972,7 @@ public class PlacesBoundaryTest extends Boundaries {
         reckonFullAtEachLimb();
         reckonCut();
         reckonInPlace();
+        reckonLongInPlace();
         rootBad();
         rootCut();
         rootInPlace();
@@ -940,6 +985,7 @@ public class PlacesBoundaryTest extends Boundaries {
         nthFull();
         whichBetween();
         nthInPlace();
+        nthLongInPlace();
         end("PlacesBoundaryTest");
     }
 }

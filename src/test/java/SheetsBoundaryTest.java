@@ -185,7 +185,7 @@ public class SheetsBoundaryTest extends Boundaries {
     }
 
     static void newRow(int sheet, int lane, int n) {
-        Heaps h = gives("sheet of " + n, n, g -> g.sheet(sheet, lane, n));
+        Heaps h = gives("sheet of " + n, n, SHEETS << sheet, g -> g.sheet(sheet, lane, n));
         is("no item " + n, h.heap(sheet, lane, n, 1, 0), INDEX);
         is("no item " + n, h.item(sheet, lane, n, 5), INDEX);
         is("another lane", h.item(sheet, (lane + 1) % 3, 0, 5), CAST);
@@ -221,7 +221,7 @@ public class SheetsBoundaryTest extends Boundaries {
         int[] had = {3, 24, 0};
         for (int sheet = 0; sheet < 3; sheet++) {
             int asked = sheet;
-            Heaps h = gives("drop", had[sheet], g -> g.drop(asked));
+            Heaps h = gives("drop", had[sheet], SHEETS << sheet, g -> g.drop(asked));
             for (int lane = 0; lane < 3; lane++) {
                 is("then", h.item(sheet, lane, 0, 1), NULL);
                 is("then", h.heap(sheet, lane, 0, 1, FREE), NULL);
@@ -292,6 +292,18 @@ public class SheetsBoundaryTest extends Boundaries {
                 }
             }
         }
+    }
+
+    static void itemAlone() {
+        sentence("37, 38: no other SHEET, no PLACE changes");
+        gives("item", 1, SHEETS << SHORTS, h -> h.item(SHORTS, 0, 2, 85));
+        gives("item", 1, SHEETS << INTS, h -> h.item(INTS, 1, 23, 85));
+        gives("film", 1, SHEETS << SHORTS, h -> h.film(SEVEN, SHORTS, 0, 2));
+        gives("film", 24, SHEETS << INTS, h -> h.film(LONGEST, INTS, 1, 0));
+        gives("film", 1, SHEETS << INTS, h -> h.film(NOUGHT, INTS, 1, 23));
+        refused("an item as it was", 1, h -> h.item(INTS, 1, 0, 60));
+        refused("an item as it was", 1, h -> h.item(SHORTS, 0, 1, 65_535));
+        refused("an item as it was", 1, h -> h.item(SHORTS, 0, 0, 65_536 + 5));
     }
 
     static void itemBits() {
@@ -464,6 +476,7 @@ public class SheetsBoundaryTest extends Boundaries {
         itemBad();
         itemRefused();
         itemEach();
+        itemAlone();
         itemBits();
         filmBad();
         filmPlace();

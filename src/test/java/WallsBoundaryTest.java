@@ -353,6 +353,15 @@ public class WallsBoundaryTest extends Boundaries {
         claim("36=s7", 0);
         claim("36=x7", -23);
         claim("", -20);
+        gives("claims of the tape 12", -22, TAPE, h -> h.claims());
+        gives("claims that are not so", 0, TAPE, h -> {
+            type(h, "=s3");
+            return h.claims();
+        });
+        gives("claims that are so", NONE, TAPE, h -> {
+            type(h, "=o3");
+            return h.claims();
+        });
         Heaps h = new Heaps();
         type(h, "36=s6");
         is("first", h.claims(), NONE);
@@ -710,7 +719,9 @@ public class WallsBoundaryTest extends Boundaries {
         holds(h, "a sheet", 1, "6");
         is("a new sheet", h.drop(1), 1);
         is("a dropped one", h.drop(2), NULL);
-        sentence("32: an IMAGE changes nothing else");
+        sentence("32, 33: nothing else changes");
+        gives("image", 1, IMAGE, g -> g.image());
+        gives("restore", 1, 255, g -> g.restore());
         refused("image", 1, g -> g.restore(), g -> {
             g.restore();
             return g.image();
