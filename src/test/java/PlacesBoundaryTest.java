@@ -602,6 +602,54 @@ public class PlacesBoundaryTest extends Boundaries {
         }
     }
 
+    static void reckonBehindLonger() {
+        sentence("10: nothing of a longer reckoning before stays");
+        BigInteger[] numbers = {BigInteger.ZERO, BigInteger.ONE, BigInteger.valueOf(7), new BigInteger(nines(9)), new BigInteger(ten(9)),
+            new BigInteger(nines(17)), new BigInteger("5" + "0".repeat(17)), new BigInteger("4" + nines(26)), new BigInteger(ten(90)),
+            new BigInteger(nines(100)), new BigInteger("5" + "0".repeat(170) + "1"), new BigInteger(nines(216))};
+        for (int i = numbers.length - 1; i >= 0; i--) {
+            for (int j = numbers.length - 1; j >= 1; j--) {
+                Heaps h = new Heaps();
+                big(h, 0, numbers[numbers.length - 1], 7);
+                big(h, 1, numbers[j], 7);
+                h.reckon(3, 0, 1, 2);
+                h.reckon(4, 0, 1, 2);
+                h.reckon(2, 1, 1, 2);
+                h.put(3, 7);
+                h.reckon(3, 0, 3, 2);
+                big(h, 0, numbers[i], 7);
+                BigInteger[] due = numbers[i].divideAndRemainder(numbers[j]);
+                is(numbers[i] + "/" + numbers[j], h.reckon(3, 0, 1, 2), due[0].toString().length());
+                holds(h, numbers[i] + "/" + numbers[j], 2, due[0].toString());
+                is(numbers[i] + "%" + numbers[j], h.reckon(4, 0, 1, 2), due[1].toString().length());
+                holds(h, numbers[i] + "%" + numbers[j], 2, due[1].toString());
+            }
+        }
+    }
+
+    /** Numbers of nines, noughts and halves: there a guess at nine figures of a quotient is too high. */
+    static void reckonLongQuotients() {
+        sentence("10: a by b, cut, and the rest of that, of many figures");
+        String[] nine = {"000000000", "999999999", "000000001", "500000000", "499999999", "999999998", "500000001"};
+        int n = nine.length;
+        Heaps h = new Heaps();
+        for (int i = 0; i < n * n * n * n; i++) {
+            String a = nine[i % n] + nine[i / n % n] + nine[i * 3 % n] + nine[i / n / n % n] + nine[i * 5 / n % n];
+            String b = nine[i / n / n / n] + nine[(i + 2) % n] + nine[i / 5 % n];
+            BigInteger[] two = {new BigInteger(a), new BigInteger(b)};
+            h = h.left() < 40 ? new Heaps() : h;
+            read(h, a, 0);
+            read(h, b, 1);
+            BigInteger[] due = two[1].signum() == 0 ? null : two[0].divideAndRemainder(two[1]);
+            is(a + "/" + b, h.reckon(3, 0, 1, 2), due == null ? ZERO : due[0].toString().length());
+            is(a + "%" + b, h.reckon(4, 0, 1, 3), due == null ? ZERO : due[1].toString().length());
+            if (due != null) {
+                holds(h, a + "/" + b, 2, due[0].toString());
+                holds(h, a + "%" + b, 3, due[1].toString());
+            }
+        }
+    }
+
     static void reckonInPlace() {
         sentence("10, Terms: it may be one of those asked");
         String[] due = {"43", "29", "252", "5", "1"};
@@ -971,6 +1019,8 @@ public class PlacesBoundaryTest extends Boundaries {
         reckonFull();
         reckonFullAtEachLimb();
         reckonCut();
+        reckonBehindLonger();
+        reckonLongQuotients();
         reckonInPlace();
         reckonLongInPlace();
         rootBad();
